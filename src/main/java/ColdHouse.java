@@ -884,7 +884,10 @@ public final class ColdHouse {
             int last = Math.min(plant.most[m], sum - low);
             long found = Long.MAX_VALUE;
             for (int x = Math.max(plant.least[m], sum - high); x <= last; x++) {
-                found = Math.min(found, leastFor[sum - x] + row[x]);
+                long tried = leastFor[sum - x] + row[x];
+                if (tried < found) {
+                    found = tried;
+                }
             }
             return found;
         }
@@ -964,7 +967,10 @@ public final class ColdHouse {
             int last = Math.min(plant.most[m], sum);
             int found = UNREACHED;
             for (int x = plant.least[m]; x <= last; x++) {
-                found = Math.min(found, leastFor[sum - x] + row[x]);
+                int tried = leastFor[sum - x] + row[x];
+                if (tried < found) {
+                    found = tried;
+                }
             }
             return found;
         }

@@ -12,7 +12,9 @@ public final class TextTest {
         lay();
         layRefused();
         layClearsAll();
-        rulesWithout();
+        layForgetsWhatWasReckoned();
+        layAtAnyTime();
+        rulesAtFirst();
         lastRuleCounts();
         Due.end();
     }
@@ -205,36 +207,125 @@ public final class TextTest {
         Due.is("POWER NOW of the new one", x.now(3), 6 + 78);
     }
 
-    /** Without r and h: RUN 5, REST 3, STARTS 3, GAP 1, UP 90, DOWN 60, WAIT 2. */
-    private static void rulesWithout() {
+    private static void layForgetsWhatWasReckoned() {
         ColdHouse x = new ColdHouse();
-        Due.write(x, "c1,10,5,10,0,3;r9,9,1,9;h50,1,0;");
+        for (int base = 1; base <= 5; base++) {
+            x.wipe();
+            Due.write(x, "c1,10," + base + ",10,0,3;h50,1,0;");
+            Due.is("lay()", x.lay(), 1);
+            Due.is("share by BASE " + base, x.share(1, 10, -1), base + 78);
+            Due.is("best by BASE " + base, x.best(10, 1), base + 78);
+            x.tell(0, 10);
+            x.tick(6);
+            Due.is("POWER NOW by BASE " + base, x.now(3), base + 78);
+        }
+    }
+
+    /** LAID while one is ON and UPS are told, while DOWNS are, and while there is a LIST. */
+    private static void layAtAnyTime() {
+        int[] none = {2, 0, 0, 0, 0, 0, 0, 0, 0, 0, 0, 0, 25, 7, 0};
+        ColdHouse x = Due.laid("c1,10,5,10,0,3;c1,10,5,10,0,3;r0,9,1,0;h50,99,9;");
+        x.tell(0, 20);
+        x.tick(30);
+        Due.isTrue("UPS", x.count(6) > 0 && x.count(2) == 2);
         x.lay();
-        x.wipe();
-        Due.write(x, "c1,10,5,10,0,3;c1,10,5,10,0,3;");
-        Due.is("lay()", x.lay(), 2);
-        x.tell(0, 18);
-        Due.is("WAIT is 2", x.tick(2), 0);
-        Due.is("and over", x.tick(1), 1);
-        Due.is("GAP is 1: not yet", x.machine(1, 10), 0);
+        Due.counts(x, "with UPS", none);
+        x.tell(0, 20);
+        x.tick(30);
+        x.tell(0, 1);
+        x.tick(4);
+        Due.is("DOWNS", x.count(7), 4);
+        x.lay();
+        Due.counts(x, "with DOWNS", none);
+        x.tell(0, 20);
+        x.tick(30);
+        x.dip();
+        Due.is("LIST", x.count(4), 2);
+        x.lay();
+        Due.counts(x, "with a LIST", none);
+        Due.machines(x, "REST and STARTS are forgotten", 10, 1, 1);
+    }
+
+    /** RUN 5, REST 3, STARTS 3, GAP 1, UP 90, DOWN 60, WAIT 2: at first, without r and h, and told so. */
+    private static void rulesAtFirst() {
+        String machines = "c10,40,20,9,30,12;c10,40,25,8,20,12;c5,20,8,12,40,6;c20,60,40,7,15,20;";
+        for (String text : new String[] {"", machines, machines + "r5,3,3,1;h90,60,2;"}) {
+            runRestGapWait(withRules(text));
+            startsAtFirst(withRules(text));
+            upAndDown(withRules(text));
+        }
+    }
+
+    private static ColdHouse withRules(String text) {
+        ColdHouse x = new ColdHouse();
+        if (!text.isEmpty()) {
+            Due.write(x, "c1,10,5,10,0,3;r9,9,1,9;h50,1,0;");
+            x.lay();
+            x.wipe();
+            Due.write(x, text);
+            Due.is("lay()", x.lay(), 4);
+        }
+        return x;
+    }
+
+    private static void runRestGapWait(ColdHouse x) {
+        x.tell(0, 40);
+        Due.is("WAIT 2: not yet", x.tick(2), 0);
+        Due.is("WAIT 2: over", x.tick(1), 1);
+        Due.is("GAP 1: not yet", x.machine(1, 10), 0);
         x.tick(1);
-        Due.is("GAP is 1: over", x.machine(1, 10), 1);
-        Due.is("two run", x.tick(10), 1);
-        Due.is("18 is not above 90 of 100", x.count(6), 0);
-        x.tell(0, 19);
-        x.tick(1);
-        Due.is("19 is above", x.count(6), 1);
-        x.tell(0, 6);
-        x.tick(3);
-        Due.is("6 is not below 60 of 100", x.count(1), 2);
-        x.tell(0, 5);
-        x.tick(3);
-        Due.is("5 is below", x.count(1), 1);
-        Due.is("stopped 0 TICKS ago", x.machine(0, 6) + x.machine(0, 10), 0);
+        Due.is("GAP 1: over", x.machine(1, 10), 1);
+        Due.is("the second", x.tick(2), 1);
+        x.tell(0, 1);
         x.tick(2);
-        Due.is("REST is 3: not yet", x.machine(0, 10), 0);
+        Due.is("RUN 5: not yet", x.count(7), 0);
         x.tick(1);
-        Due.is("REST is 3: over", x.machine(0, 10), 1);
+        Due.is("RUN 5: over", x.count(7), 1);
+        x.tick(1);
+        Due.is("WAIT 2: not yet", x.count(7) * 10 + x.count(1), 22);
+        x.tick(1);
+        Due.is("WAIT 2: over", x.count(7) * 10 + x.count(1), 1);
+        Due.is("it is OFF", x.machine(0, 6), 0);
+        x.tick(2);
+        Due.is("REST 3: not yet", x.machine(0, 10), 0);
+        x.tick(1);
+        Due.is("REST 3: over", x.machine(0, 10), 1);
+    }
+
+    private static void startsAtFirst(ColdHouse x) {
+        x.lock(1, 1);
+        x.lock(2, 1);
+        x.lock(3, 1);
+        x.tell(0, 40);
+        x.tick(3);
+        for (int k = 0; k < 2; k++) {
+            x.lock(0, 1);
+            x.lock(0, 0);
+            Due.is("STARTS 3: not all yet", x.tick(4), 1);
+        }
+        x.lock(0, 1);
+        x.lock(0, 0);
+        Due.is("STARTS 3: all", x.tick(50), 0);
+        Due.is("STARTS 3: in tick 62 too", x.machine(0, 10), 0);
+        x.tick(1);
+        Due.is("STARTS 3: in tick 63 no more", x.machine(0, 10), 1);
+    }
+
+    private static void upAndDown(ColdHouse x) {
+        x.tell(0, 160);
+        Due.is("all start", x.tick(20), 4);
+        x.tell(0, 144);
+        x.tick(1);
+        Due.is("UP 90: not above", x.count(6), 0);
+        x.tell(0, 145);
+        x.tick(1);
+        Due.is("UP 90: above", x.count(6), 1);
+        x.tell(0, 72);
+        x.tick(1);
+        Due.is("DOWN 60: not below", x.count(7), 0);
+        x.tell(0, 71);
+        x.tick(1);
+        Due.is("DOWN 60: below", x.count(7), 1);
     }
 
     private static void lastRuleCounts() {
