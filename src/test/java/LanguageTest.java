@@ -101,13 +101,20 @@ public final class LanguageTest {
             Due.isTrue("import " + imports.group(1), List.of("java.util.Arrays", "java.util.ArrayList", "java.util.List").contains(imports.group(1)));
         }
         Due.isTrue("signs 1 to 127", whole.chars().allMatch(c -> c >= 1 && c <= 127));
+        methodLengths(whole.split("\n"));
+    }
+
+    private static void methodLengths(String[] lines) {
         int length = 0;
-        for (String line : whole.split("\n")) {
-            boolean head = line.matches(" {4,8}[A-Za-z].*\\) \\{");
+        int methods = 0;
+        for (String line : lines) {
+            boolean head = line.matches(" {4,8}(?!if|for|while|switch)[A-Za-z][^=]*\\) \\{");
+            methods += head ? 1 : 0;
             length = head ? 1 : length + 1;
-            if (line.matches(" {4,8}\\}")) {
-                Due.isTrue("sixty lines at most", length <= 60 || line.startsWith("    }"));
+            if (line.matches(" {4}( {4})?\\}")) {
+                Due.isTrue("sixty lines at most, here " + length, length <= 60);
             }
         }
+        Due.isTrue("methods are seen: " + methods, methods > 60);
     }
 }
