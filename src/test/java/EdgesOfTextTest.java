@@ -52,8 +52,10 @@ public final class EdgesOfTextTest {
             "c1,10,0,99,0,1;", "c1,10,0,0,99,1;", "c1,10,0,0,0,40;"}) {
             good(MACHINE_BOUNDS, item);
         }
-        for (String item : new String[] {"c0,10,5,10,0,3;", "c41,41,5,10,0,3;", "c41,80,5,10,0,3;", "c10,9,5,10,0,3;", "c40,39,5,10,0,3;", "c1,0,5,10,0,3;",
-            "c10,81,5,10,0,3;", "c10,99,5,10,0,3;", "c1,10,100,10,0,3;", "c1,10,5,100,0,3;", "c1,10,5,10,100,3;", "c1,10,5,10,0,0;", "c1,10,5,10,0,41;"}) {
+        for (String item : new String[] {"c0,10,5,10,0,3;", "c41,41,5,10,0,3;", "c41,80,5,10,0,3;", "c10,9,5,10,0,3;", "c40,39,5,10,0,3;",
+            "c1,0,5,10,0,3;",
+            "c10,81,5,10,0,3;", "c10,99,5,10,0,3;", "c1,10,100,10,0,3;", "c1,10,5,100,0,3;", "c1,10,5,10,100,3;", "c1,10,5,10,0,0;",
+            "c1,10,5,10,0,41;"}) {
             bad(MACHINE_BOUNDS, item);
         }
         Calls.hold(MACHINE_BOUNDS,
@@ -76,7 +78,8 @@ public final class EdgesOfTextTest {
         for (String item : new String[] {"c1,10,5,10,0,3;", "r5,3,3,1;", "h90,60,2;"}) {
             String[] numbers = item.substring(1, item.length() - 1).split(",");
             for (int k = 0; k < numbers.length; k++) {
-                for (String other : new String[] {"", "0" + "0".repeat(2 - numbers[k].length()) + numbers[k], "-" + numbers[k], "+1", "a", "1a", "a1", "/", ":", "1.0"}) {
+                for (String other : new String[] {"", "0" + "0".repeat(2 - numbers[k].length()) + numbers[k], "-" + numbers[k], "+1", "a", "1a",
+                    "a1", "/", ":", "1.0"}) {
                     bad(ITEMS, item.charAt(0) + with(numbers, k, other) + ";");
                 }
             }
@@ -134,33 +137,38 @@ public final class EdgesOfTextTest {
         }
     }
 
+    /** Its rules are all others: what is LAID behind it without r or h has none of them. */
+    private static final String OTHERS = "{" + C + "r30,30,9,9;h99,1,9;} {";
+
     /** GAP 1, STARTS 3, REST 3, RUN 5, in this order, each at the last TICK where it holds and the first where it is over. */
     private static void runRulesWithout() {
-        String one = C + "h50,1,0;";
-        String two = C + C + "h50,99,0;";
-        String four = "tick(1)=1 lock(0,1)=1 lock(0,0)=0 ";
+        String one = OTHERS + C + "h50,1,0;";
+        String two = OTHERS + C + C + "h50,99,0;";
+        String startAndStop = "tick(1)=1 lock(0,1)=1 lock(0,0)=0 ";
         for (String rules : new String[] {"", "r5,3,3,1;", "r30,30,1,9;r5,3,3,1;", "r5,3,3,1;h50,99,9;r5,3,3,1;h50,99,0;"}) {
-            Calls.hold(RUN_RULES, "{" + two + rules + "} tell(0,20)=0 tick(1)=1 machine(1,10)=0 tick(1)=0 machine(1,10)=1 tick(1)=1",
-                "{" + C + "h50,1,0;" + rules + "} tell(0,10)=0 " + four + "tick(3)=0 " + four + "tick(3)=0 " + four
+            Calls.hold(RUN_RULES, two + rules + "} tell(0,20)=0 tick(1)=1 machine(1,10)=0 tick(1)=0 machine(1,10)=1 tick(1)=1",
+                one + rules + "} tell(0,10)=0 " + startAndStop + "tick(3)=0 " + startAndStop + "tick(3)=0 " + startAndStop
                     + "tick(50)=0 machine(0,10)=0 count(5)=59 tick(1)=0 machine(0,10)=1 tick(1)=1",
-                "{" + one + rules + "} tell(0,10)=0 " + four + "tick(2)=0 machine(0,10)=0 tick(1)=0 machine(0,10)=1 tick(1)=1",
-                "{" + two + rules + "} tell(0,20)=0 tick(3)=2 tell(0,1)=20 tick(3)=0 count(2)=2 count(7)=0 tick(1)=0 machine(0,6)=0 machine(1,6)=2");
+                one + rules + "} tell(0,10)=0 " + startAndStop + "tick(2)=0 machine(0,10)=0 tick(1)=0 machine(0,10)=1 tick(1)=1",
+                two + rules + "} tell(0,20)=0 tick(3)=2 tell(0,1)=20 tick(3)=0 count(2)=2 count(7)=0 tick(1)=0 machine(0,6)=0 machine(1,6)=2");
         }
         Calls.hold(RUN_RULES, "{" + C + C + "r5,3,3,9;h50,1,0;r5,3,3,2;} tell(0,20)=0 tick(1)=1 tick(2)=0 machine(1,10)=1",
             "{r5,3,3,9;" + C + C + "h50,1,0;} tell(0,20)=0 tick(1)=1 tick(8)=0 machine(1,10)=0 tick(1)=0 machine(1,10)=1");
     }
 
-    /** UP 90 of 20 is 18, DOWN 60 of 10 is 6. */
+    /** UP 90 of 100 is 90, DOWN 60 of 100 is 60; three of 50 each are RUNNING in the second run. */
     private static void stageRulesWithout() {
-        String two = C + C + "r0,0,9,0;";
+        String two = OTHERS + "c1,50,1,1,1,1;".repeat(2) + "r0,0,9,0;";
+        String three = OTHERS + "c1,50,1,1,1,1;".repeat(3) + "r0,0,9,0;";
         for (String rules : new String[] {"", "h90,60,2;", "h50,1,9;h90,60,2;", "h90,60,2;r9,9,1,9;h90,60,2;r0,0,9,0;"}) {
-            Calls.hold(STAGE_RULES, "{" + two + rules + "} tell(0,18)=0 tick(2)=0 count(6)=2 tick(1)=1 count(6)=0 tick(2)=0 tick(1)=1"
-                    + " tick(5)=0 count(6)=0 tell(0,19)=18 tick(1)=0 count(6)=1 tell(0,18)=19 tick(1)=0 count(6)=0",
-                "{" + two + rules + "} tell(0,18)=0 tick(6)=2 tick(3)=0 tell(0,6)=18 tick(1)=0 count(7)=0 tell(0,5)=6 tick(1)=0 count(7)=1"
-                    + " tick(1)=0 count(7)=2 count(1)=2 tick(1)=0 count(7)=0 count(1)=1");
+            Calls.hold(STAGE_RULES, two + rules + "} tell(0,90)=0 tick(2)=0 count(6)=2 tick(1)=1 count(6)=0 tick(2)=0 tick(1)=1"
+                    + " tick(5)=0 count(6)=0 tell(0,91)=90 tick(1)=0 count(6)=1 tell(0,90)=91 tick(1)=0 count(6)=0",
+                three + rules + "} tell(0,150)=0 tick(9)=3 tick(3)=0 tell(0,60)=150 tick(1)=0 count(7)=0 tell(0,59)=60 tick(1)=0 count(7)=1"
+                    + " tick(1)=0 count(7)=2 count(1)=3 tick(1)=0 count(7)=0 count(1)=2");
         }
-        Calls.hold(STAGE_RULES, "{h90,60,9;" + two + "h90,60,1;} tell(0,10)=0 tick(1)=0 tick(1)=1",
-            "{h50,60,0;" + two + "} tell(0,10)=0 tick(1)=1");
+        String small = C + C + "r0,0,9,0;";
+        Calls.hold(STAGE_RULES, "{h90,60,9;" + small + "h90,60,1;} tell(0,10)=0 tick(1)=0 tick(1)=1", "{h50,60,0;" + small + "} tell(0,10)=0"
+            + " tick(1)=1");
     }
 
     private static void faultPlaces() {
@@ -189,13 +197,16 @@ public final class EdgesOfTextTest {
         String full = "c10,10,10,10,10,10;".repeat(6) + "r5,3,3,1;".repeat(6) + "h90,60,2;".repeat(3);
         Calls.hold("THE TEXT is letters (200 at most).", "'" + full + "r5,3,' fault()=195 lay()=NO write(51)=FULL count(15)=200",
             "'" + (C + "r0,0,9,0;").repeat(4) + "h50,1,0;".repeat(12) + "h50,1,00' write(59)=FULL fault()=192",
-            "'" + (C + "r0,0,9,0;").repeat(4) + "h50,1,0;".repeat(12) + "h50,1,0;' fault()=NONE write(99)=FULL lay()=4 count(15)=200 tell(0,10)=0 tick(1)=1");
+            "'" + (C + "r0,0,9,0;").repeat(4) + "h50,1,0;".repeat(12) + "h50,1,0;' fault()=NONE write(99)=FULL lay()=4 count(15)=200 tell(0,10)=0"
+                + " tick(1)=1");
     }
 
     private static void wipe() {
         Calls.hold("THE TEXT is empty: how long it was.", "wipe()=0 wipe()=0", "'c' wipe()=1 count(15)=0 wipe()=0 write(99)=1",
-            "'" + "a".repeat(200) + "' wipe()=200 fault()=NONE count(15)=0", "tell(0,30)=0 'ab' wipe()=2 count(10)=30 count(0)=4 undo()=0 count(15)=0",
-            "'" + C + C + "' wipe()=30 '" + C + "' fault()=NONE lay()=1");
+            "'" + "a".repeat(200) + "' wipe()=200 fault()=NONE count(15)=0", "tell(0,30)=0 'ab' wipe()=2 count(10)=30 count(0)=4 undo()=0"
+                + " count(15)=0",
+            "'" + C + C + "' wipe()=30 '" + C + "' fault()=NONE lay()=1",
+            "'" + C + "' wipe()=15 'c1,10,5,10,0,3' fault()=0 lay()=NO", "'" + C + "' wipe()=15 'c1,' fault()=0 wipe()=3 fault()=NONE lay()=NO");
     }
 
     private static void laid() {
@@ -223,9 +234,11 @@ public final class EdgesOfTextTest {
         String sentence = "LAID is a TEXT without FAULT with a MACHINE at least (NO else;";
         String scene = "tell(0,150)=0 tick(20)=4 lock(1,1)=1 dip()=3 tick(3)=2 ";
         for (String text : new String[] {"r5,3,3,1;", "h90,60,2;", "r5,3,3,1;h90,60,2;", "c", C + "x", C + "c", "x" + C, C.repeat(7), "r5,3,3,1;c"}) {
-            Calls.hold(sentence, "'" + text + "' lay()=NO count(0)=4", scene + "'" + text + "' lay()=NO count(15)=" + text.length() + " count(14)=4 undo()=3");
+            Calls.hold(sentence, "'" + text + "' lay()=NO count(0)=4", scene + "'" + text + "' lay()=NO count(15)=" + text.length()
+                + " count(14)=4 undo()=3");
         }
-        Calls.hold(sentence, "lay()=NO", scene + "lay()=NO undo()=3", "{" + C + "} wipe()=15 lay()=NO count(0)=1", "'r5,3,3,1;" + C + "' lay()=1", "'" + C + "' lay()=1");
+        Calls.hold(sentence, "lay()=NO", scene + "lay()=NO undo()=3", "{" + C + "} wipe()=15 lay()=NO count(0)=1", "'r5,3,3,1;" + C
+            + "' lay()=1", "'" + C + "' lay()=1");
     }
 
     /** What the last LAID one had is gone: MACHINES, rules and what was reckoned for them. */

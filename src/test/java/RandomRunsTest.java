@@ -4,6 +4,9 @@ import java.util.Random;
 public final class RandomRunsTest {
     private static final int RUNS = 1200;
     private static final int CALLS = 512;
+    /** What calls behind the 512th answer is free, but none may throw. */
+    private static final int LONG_RUNS = 4;
+    private static final int LONG_CALLS = 5000;
 
     private final Random random;
     private final ColdHouse x = new ColdHouse();
@@ -19,16 +22,19 @@ public final class RandomRunsTest {
 
     public static void main(String[] args) {
         for (int seed = 1; seed <= RUNS; seed++) {
-            new RandomRunsTest(seed).go(seed);
+            new RandomRunsTest(seed).go(seed, CALLS);
+        }
+        for (int seed = RUNS + 1; seed <= RUNS + LONG_RUNS; seed++) {
+            new RandomRunsTest(seed).go(seed, LONG_CALLS);
         }
         Due.end();
     }
 
-    private void go(int seed) {
+    private void go(int seed, int most) {
         if (seed % 4 != 0) {
             writeAndLay(seed % 3 == 0);
         }
-        while (calls < CALLS) {
+        while (calls < most) {
             if (random.nextInt(150) == 0) {
                 writeAndLay(false);
             }

@@ -17,10 +17,12 @@ public final class RefusedTest {
         inScene("", 4, "");
         inScene("{" + C + "} ", 1, "");
         inScene(two + "tell(0,20)=0 tick(6)=1 lock(1,1)=1 ", 2, "tell(0,20)=NO lock(1,1)=NO lock(0,0)=NO ");
-        inScene(two + "tell(0,20)=0 tick(20)=2 tell(0,1)=20 tick(2)=0 ", 2, "tell(0,1)=NO lock(1,0)=NO lock(0,0)=NO best(21,0)=NONE share(3,1,0)=NONE ");
+        inScene(two + "tell(0,20)=0 tick(20)=2 tell(0,1)=20 tick(2)=0 ", 2, "tell(0,1)=NO lock(1,0)=NO lock(0,0)=NO best(21,0)=NONE"
+            + " share(3,1,0)=NONE ");
         inScene(SIX + "tell(0,110)=0 tick(19)=6 dip()=6 tick(2)=1 tell(2,45)=25 tell(3,14)=7 ", 6,
             "tell(0,110)=NO tell(2,45)=NO tell(3,14)=NO lock(5,0)=NO best(121,0)=NONE share(63,5,0)=NONE machine(2,12)=NONE ");
-        inScene("'" + "c10,10,10,10,10,10;".repeat(6) + "h90,60,02;".repeat(8) + "r5,3,3' tell(0,30)=0 tick(5)=1 ", 4, "write(32)=FULL write(126)=FULL lay()=NO tell(0,30)=NO ");
+        inScene("'" + "c10,10,10,10,10,10;".repeat(6) + "h90,60,02;".repeat(8) + "r5,3,3' tell(0,30)=0 tick(5)=1 ", 4, "write(32)=FULL"
+            + " write(126)=FULL lay()=NO tell(0,30)=NO ");
         inScene("tell(0,160)=0 tick(60)=4 165*tick(60)=0 tick(39)=0 ", 4, "tick(1)=NO tick(60)=NO lay()=NO tell(0,160)=NO ");
         inScene("tell(0,160)=0 tick(60)=4 165*tick(60)=0 tick(37)=0 ", 4, "tick(3)=NO tick(60)=NO lay()=NO ");
         Due.end();
@@ -74,7 +76,8 @@ public final class RefusedTest {
         bad("ahead(#,0)", -1, 0, 61);
         bad("ahead(1,#)", -1, 4);
         bad("count(#)", -1, 16);
-        for (String call : new String[] {"machine(#,0)", "machine(0,#)", "power(#,0,0)", "power(0,#,0)", "power(0,0,#)", "share(#,0,-1)", "share(0,#,-1)", "share(0,0,#)",
+        for (String call : new String[] {"machine(#,0)", "machine(0,#)", "power(#,0,0)", "power(0,#,0)", "power(0,0,#)", "share(#,0,-1)",
+            "share(0,#,-1)", "share(0,0,#)",
             "best(#,0)", "best(0,#)", "now(#)", "ahead(#,0)", "ahead(1,#)", "count(#)"}) {
             bad(call, FAR);
         }
