@@ -12,9 +12,12 @@ public final class EdgesOfChangesTest {
     private static final String AHEAD = "AHEAD n TICKS (1 to 60): as they would go by (nothing changes by it).";
     private static final String CHANGE = "A change: LOAD, WATER, OUTSIDE, COLD told anew, one LOCKED or not, a DIP, TICKS. "
         + "UNDONE is the latest change (the last 4 can be; behind LAID none can be).";
+    private static final String ABOVE_BEST =
+        "POWER NOW less that of the BEST SET for LOAD (6; NONE: there is none, or it is SHORT or TOO MUCH now). BAD.";
 
     public static void main(String[] args) {
         tell();
+        loadAndWater();
         lockAnswers();
         lockedOnes();
         dipStopsAll();
@@ -39,19 +42,30 @@ public final class EdgesOfChangesTest {
         int[] most = {480, 240, 45, 14};
         int[] first = {0, 0, 25, 7};
         for (int what = 0; what < 4; what++) {
-            String told = " tell(" + what + ",";
+            int low = least[what];
+            int high = most[what];
             String asked = " count(" + (10 + what) + ")=";
-            Calls.hold(sentence, told + most[what] + ")=" + first[what] + asked + most[what] + told + most[what] + ")=NO" + told + (most[what]
-                + 1) + ")=BAD"
-                + told + (most[what] - 1) + ")=" + most[what] + told + least[what] + ")=" + (most[what] - 1) + asked + least[what] + told
-                + least[what] + ")=NO"
-                + told + (least[what] - 1) + ")=BAD" + told + (least[what] + 1) + ")=" + least[what] + asked + (least[what] + 1) + " count(14)=4",
-                told + first[what] + ")=NO" + told + "-2147483648)=BAD" + told + "2147483647)=BAD" + told + "-1)=BAD count(14)=0");
+            Calls.hold(sentence,
+                told(what, high, first[what]) + asked + high + told(what, high, "NO") + told(what, high + 1, "BAD")
+                    + told(what, high - 1, high) + told(what, low, high - 1) + asked + low + told(what, low, "NO")
+                    + told(what, low - 1, "BAD") + told(what, low + 1, low) + asked + (low + 1) + " count(14)=4",
+                told(what, first[what], "NO") + told(what, Integer.MIN_VALUE, "BAD") + told(what, Integer.MAX_VALUE, "BAD")
+                    + told(what, -1, "BAD") + " count(14)=0");
         }
         Calls.hold(sentence, "tell(-1,5)=BAD tell(4,5)=BAD tell(-2147483648,5)=BAD tell(2147483647,5)=BAD tell(4,0)=BAD tell(-1,0)=BAD",
             "tell(0,10)=0 tell(1,10)=0 tell(2,10)=25 tell(3,10)=7 count(10)=10 count(11)=10 count(12)=10 count(13)=10 tell(0,10)=NO tell(1,10)=NO"
                 + " tell(2,10)=NO tell(3,10)=NO",
             "tell(0,241)=0 tell(1,241)=BAD tell(2,46)=BAD tell(3,15)=BAD tell(3,3)=BAD", "tell(0,30)=0 undo()=0 tell(0,0)=NO tell(0,30)=0");
+    }
+
+    private static void loadAndWater() {
+        Calls.hold("LOAD is 0 to 480, WATER 0 to 240 (how much is to flow).",
+            "count(10)=0 tell(0,480)=0 tell(0,481)=BAD count(10)=480 tell(0,-1)=BAD tell(0,0)=480 count(10)=0",
+            "count(11)=0 tell(1,240)=0 tell(1,241)=BAD count(11)=240 tell(1,-1)=BAD tell(1,0)=240 count(11)=0");
+    }
+
+    private static String told(int what, int v, Object answer) {
+        return " tell(" + what + "," + v + ")=" + answer;
     }
 
     private static void lockAnswers() {
@@ -143,8 +157,8 @@ public final class EdgesOfChangesTest {
     }
 
     private static void aheadShort() {
-        String sentence = "how many are RUNNING then (what = 0), STARTED in them (1), ENERGY in them (2), behind how many of them it was SHORT"
-            + " (3). BAD.";
+        String sentence = "AHEAD n TICKS: how many are RUNNING then (what = 0), STARTED in them (1), ENERGY in them (2), "
+            + "behind how many of them it was SHORT (3). BAD.";
         Calls.hold(sentence, ONE + "ahead(60,3)=0 tell(0,10)=0 ahead(1,3)=1 ahead(3,3)=3 ahead(4,3)=3 ahead(60,3)=3 tell(0,11)=10 ahead(60,3)=60",
             ONE + "tell(0,10)=0 tick(3)=1 now(1)=10 ahead(1,3)=0 tick(1)=0 now(1)=0 ahead(60,3)=0 tell(0,0)=10 now(2)=1 ahead(60,3)=0 tell(0,11)=0"
                 + " ahead(1,3)=1",
@@ -228,7 +242,7 @@ public final class EdgesOfChangesTest {
     }
 
     private static void nowAndCountAnswers() {
-        Calls.hold("(6; NONE: there is none, or it is SHORT or TOO MUCH now). BAD.", "now(-1)=BAD now(7)=BAD now(2147483647)=BAD"
+        Calls.hold(ABOVE_BEST, "now(-1)=BAD now(7)=BAD now(2147483647)=BAD"
             + " now(-2147483648)=BAD now(0)=0 now(6)=0",
             "tell(0,4)=0 now(6)=NONE tell(0,161)=4 now(6)=NONE now(7)=BAD");
         Calls.hold("14 changes that can be UNDONE, 15 letters of THE TEXT. BAD.", "count(-1)=BAD count(16)=BAD count(2147483647)=BAD"

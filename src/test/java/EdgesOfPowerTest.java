@@ -18,6 +18,8 @@ public final class EdgesOfPowerTest {
         + " makes (0: not of the SET). "
         + "BAD; NONE: the SET can not make it.";
     private static final String BEST_CALL = "BEST SET for a load (0 to 480), LIFT as it is now: it, as bits (what = 0), POWER (1). BAD; NONE.";
+    private static final String ABOVE_BEST =
+        "POWER NOW less that of the BEST SET for LOAD (6; NONE: there is none, or it is SHORT or TOO MUCH now). BAD.";
 
     public static void main(String[] args) {
         powerBounds();
@@ -149,7 +151,7 @@ public final class EdgesOfPowerTest {
         Calls.hold(BEST_SET, free + " best(10,0)=1 lock(0,1)=1 best(10,0)=2 lock(1,1)=2 best(10,0)=4 best(20,0)=4 best(21,0)=NONE lock(2,1)=3"
             + " best(10,0)=NONE best(10,1)=NONE"
             + " best(0,0)=0 lock(0,0)=2 best(10,0)=1 best(11,0)=NONE undo()=3 best(10,0)=NONE undo()=2 best(10,0)=4");
-        Calls.hold("(6; NONE: there is none, or it is SHORT or TOO MUCH now). BAD.", "{c1,10,9,0,0,1;c1,10,1,0,0,1;h50,1,0;} tell(0,5)=0 tick(4)=1"
+        Calls.hold(ABOVE_BEST, "{c1,10,9,0,0,1;c1,10,1,0,0,1;h50,1,0;} tell(0,5)=0 tick(4)=1"
             + " now(6)=8 lock(1,1)=1 now(6)=0"
             + " lock(0,1)=2 now(6)=NONE tell(0,0)=5 now(6)=0");
     }

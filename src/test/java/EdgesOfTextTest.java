@@ -13,6 +13,8 @@ public final class EdgesOfTextTest {
 
     public static void main(String[] args) {
         newObject();
+        laidAtFirst();
+        nextMachine();
         machineBounds();
         sixMachines();
         figures();
@@ -21,6 +23,7 @@ public final class EdgesOfTextTest {
         stageRules();
         runRulesWithout();
         stageRulesWithout();
+        faultOrNone();
         faultPlaces();
         faultOfTheSeventh();
         write();
@@ -36,6 +39,30 @@ public final class EdgesOfTextTest {
             "{c10,40,20,9,30,12;c10,40,25,8,20,12;c5,20,8,12,40,6;c20,60,40,7,15,20;r5,3,3,1;h90,60,2;} wipe()=88");
         Calls.hold("`ColdHouse()`: As told; THE TEXT is empty.",
             "count(15)=0 count(0)=4 machine(3,5)=20 machine(4,5)=BAD fault()=NONE lay()=NO undo()=NO");
+    }
+
+    private static void laidAtFirst() {
+        String sentence = "at first c10,40,20,9,30,12;c10,40,25,8,20,12;c5,20,8,12,40,6;c20,60,40,7,15,20;r5,3,3,1;h90,60,2;).";
+        Calls.hold(sentence, numbersOf(0, 10, 40, 20, 9, 30, 12) + numbersOf(1, 10, 40, 25, 8, 20, 12) + numbersOf(2, 5, 20, 8, 12, 40, 6)
+            + numbersOf(3, 20, 60, 40, 7, 15, 20) + "count(0)=4");
+        Calls.hold(sentence, "tell(0,36)=0 tick(2)=0 tick(1)=1 machine(0,6)=1 tick(1)=0 count(6)=0 tell(0,37)=36 tick(1)=0 count(6)=1 tick(2)=1"
+            + " machine(1,6)=1");
+    }
+
+    private static String numbersOf(int m, int... numbers) {
+        StringBuilder asked = new StringBuilder();
+        for (int what = 0; what < numbers.length; what++) {
+            asked.append("machine(").append(m).append(',').append(what).append(")=").append(numbers[what]).append(' ');
+        }
+        return asked.toString();
+    }
+
+    private static void nextMachine() {
+        Calls.hold("cL,H,B,S,V,F the next MACHINE: LEAST L, MOST H, BASE B, SLOPE S, CURVE V, FLOW F",
+            "{c1,2,3,4,5,6;} " + numbersOf(0, 1, 2, 3, 4, 5, 6) + "machine(1,0)=BAD",
+            "{r5,3,3,1;c1,2,3,4,5,6;h90,60,2;c7,8,9,10,11,12;r5,3,3,1;c13,14,15,16,17,18;h90,60,2;} " + numbersOf(0, 1, 2, 3, 4, 5, 6)
+                + numbersOf(1, 7, 8, 9, 10, 11, 12) + numbersOf(2, 13, 14, 15, 16, 17, 18) + "machine(3,0)=BAD",
+            "{c1,2,3,4,5,6;c1,2,3,4,5,6;} {c7,8,9,10,11,12;} " + numbersOf(0, 7, 8, 9, 10, 11, 12) + "machine(1,0)=BAD");
     }
 
     private static void good(String sentence, String item) {
@@ -169,6 +196,11 @@ public final class EdgesOfTextTest {
         String small = C + C + "r0,0,9,0;";
         Calls.hold(STAGE_RULES, "{h90,60,9;" + small + "h90,60,1;} tell(0,10)=0 tick(1)=0 tick(1)=1", "{h50,60,0;" + small + "} tell(0,10)=0"
             + " tick(1)=1");
+    }
+
+    private static void faultOrNone() {
+        Calls.hold("FAULT of THE TEXT. NONE.", "fault()=NONE 'x' fault()=0 wipe()=1 fault()=NONE", "'" + C + "' fault()=NONE lay()=1 fault()=NONE"
+            + " 'x' fault()=15 lay()=NO fault()=15", "'r5,3,3,1;' fault()=NONE lay()=NO fault()=NONE");
     }
 
     private static void faultPlaces() {

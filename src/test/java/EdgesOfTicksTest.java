@@ -17,9 +17,12 @@ public final class EdgesOfTicksTest {
     private static final String LIST_RULE = "if the LIST is not empty: if GAP is over, the first of the LIST is STARTED (and is of it no more);";
     private static final String GAP_RULE =
         "GAP is over, if the number of this TICK less that of the TICK in which any was STARTED last is above GAP (or none was).";
+    private static final String ABOVE_BEST =
+        "POWER NOW less that of the BEST SET for LOAD (6; NONE: there is none, or it is SHORT or TOO MUCH now). BAD.";
 
     public static void main(String[] args) {
         offStartingOn();
+        madeByBestShare();
         made();
         round();
         energyAndHours();
@@ -51,6 +54,15 @@ public final class EdgesOfTicksTest {
     /** LEASTS are 2 and 3, MOSTS 10 and 12, FLOWS 3 and 4; the first is ON in tick 4, the second in tick 5. */
     private static final String UNLIKE = "{c2,10,5,10,0,3;c3,12,5,10,0,4;r0,0,9,0;h50,1,0;} ";
 
+    /** A load x takes 0.7722 times x times x, cut: 10 take 38 as 5 and 5, 9 take 31 as 4 and 5 or as 5 and 4. */
+    private static void madeByBestShare() {
+        String both = "{c1,10,0,0,99,1;c1,10,0,0,99,1;c1,10,0,0,99,1;r0,0,9,0;h50,1,0;} lock(1,1)=1 tell(0,20)=0 tick(5)=2 ";
+        Calls.hold("MADE: with SUM the load of all that are ON: what they make by BEST SHARE of LOAD;",
+            both + "now(0)=20 machine(0,11)=10 machine(2,11)=10 machine(1,11)=0 tell(0,10)=20 now(0)=10 now(3)=38 machine(0,11)=5 machine(2,11)=5"
+                + " tell(0,9)=10 now(0)=9 now(3)=31 machine(0,11)=4 machine(2,11)=5 tell(0,2)=9 now(0)=2 machine(0,11)=1 machine(2,11)=1",
+            both + "tell(0,9)=20 tell(2,45)=25 now(0)=9 now(3)=39 machine(0,11)=4 machine(2,11)=5 tick(1)=0 count(9)=116");
+    }
+
     private static void made() {
         String rule = "if LOAD is below their LEASTS together, each makes its LEAST, if it is above their MOSTS together, each its MOST.";
         String both = UNLIKE + "tell(0,22)=0 tick(5)=2 ";
@@ -65,7 +77,7 @@ public final class EdgesOfTicksTest {
         Calls.hold(amiss, UNLIKE + "now(1)=0 now(2)=0 tell(0,1)=0 now(1)=1 now(2)=0 tell(0,480)=1 now(1)=480 now(2)=0",
             both + "now(1)=0 now(2)=0 tell(0,23)=22 now(1)=1 now(2)=0 tell(0,480)=23 now(1)=458 now(2)=0",
             both + "tell(0,5)=22 now(1)=0 now(2)=0 tell(0,4)=5 now(1)=0 now(2)=1 tell(0,0)=4 now(1)=0 now(2)=5");
-        Calls.hold("(6; NONE: there is none, or it is SHORT or TOO MUCH now). BAD.", UNLIKE + "now(6)=0 tell(0,1)=0 now(6)=NONE tell(0,2)=1"
+        Calls.hold(ABOVE_BEST, UNLIKE + "now(6)=0 tell(0,1)=0 now(6)=NONE tell(0,2)=1"
             + " now(6)=NONE",
             both + "now(6)=0 tell(0,23)=22 now(6)=NONE tell(0,12)=23 now(6)=4 tell(0,5)=12 now(6)=4 tell(0,4)=5 now(6)=NONE tell(0,0)=4 now(6)=NONE");
         Calls.hold("what it makes now (11; 0: not ON)", both + "dip()=2 machine(0,11)=0 machine(1,11)=0 now(0)=0 now(3)=0");
