@@ -29,6 +29,7 @@ public final class EdgesOfChangesTest {
         aheadShort();
         changesThatCanBeUndone();
         eachChangeUndone();
+        restUndoneAndAhead();
         noChange();
         machineAnswers();
         asAsked();
@@ -116,6 +117,9 @@ public final class EdgesOfChangesTest {
             "{c1,10,1,1,1,1;c1,11,1,1,1,1;r0,0,9,0;h50,1,0;} tell(0,30)=0 tick(2)=2 dip()=2 machine(0,12)=1 machine(1,12)=0 tick(1)=1"
                 + " machine(1,6)=1 dip()=1 machine(0,12)=0 machine(1,12)=1",
             "{c1,80,1,1,1,1;c1,80,1,1,1,1;r0,0,9,0;h50,1,0;} tell(0,160)=0 tick(2)=2 dip()=2 machine(0,12)=0 machine(1,12)=1");
+        Calls.hold(DIP, "{c1,1,1,1,1,1;c1,1,1,1,1,1;c1,2,1,1,1,1;r0,0,9,0;h50,1,0;} lock(0,1)=1 tell(0,9)=0 tick(2)=2 dip()=2 machine(2,12)=0"
+            + " machine(1,12)=1 machine(0,12)=NONE count(4)=2 tick(2)=2 machine(0,6)=0 machine(1,6)=1 machine(2,6)=1",
+            "{c1,1,1,1,1,1;c1,1,1,1,1,1;r0,0,9,0;h50,1,0;} lock(0,1)=1 tell(0,9)=0 tick(1)=1 dip()=1 machine(1,12)=0 machine(0,12)=NONE count(4)=1");
         Calls.hold("its place in the LIST (12; 0 the first; NONE). BAD.", TWO + "machine(0,12)=NONE tell(0,10)=0 tick(1)=1 machine(0,12)=NONE"
             + " dip()=1 machine(0,12)=0 machine(1,12)=NONE tick(1)=1 machine(0,12)=NONE");
     }
@@ -178,11 +182,21 @@ public final class EdgesOfChangesTest {
         Calls.hold("UNDONE: how many more can be. NO.", "undo()=NO undo()=NO tell(3,4)=7 undo()=0 undo()=NO count(13)=7");
     }
 
+    /** The first is STOPPED in TICK 4 and MAY START in TICK 14. */
+    private static final String RESTING = "{" + C + C + "r0,9,3,0;h50,99,0;} tell(0,9)=0 tick(5)=2 tell(0,10)=9 ";
+
+    private static void restUndoneAndAhead() {
+        Calls.hold(CHANGE, RESTING + "tick(8)=0 machine(0,10)=1 tick(1)=1 undo()=3 machine(0,10)=1 undo()=2 machine(0,10)=0 tick(7)=0"
+            + " machine(0,10)=0 tick(1)=0 machine(0,10)=1 tick(1)=1", RESTING + "undo()=2 undo()=1 machine(0,10)=1 tick(3)=2 machine(0,6)=1");
+        Calls.hold(AHEAD, RESTING + "ahead(8,1)=0 ahead(8,0)=1 ahead(9,1)=1 ahead(9,0)=2 ahead(60,1)=1 machine(0,10)=0",
+            "{" + C + "r0,0,1,0;h50,1,0;} tell(0,10)=0 tick(1)=1 lock(0,1)=1 lock(0,0)=0 ahead(59,1)=0 ahead(60,1)=1");
+    }
+
     private static void eachChangeUndone() {
         String[] scenes = {ONE, TWO + "tell(0,20)=0 tick(7)=2 ", SIX + "tell(0,480)=0 tick(7)=6 dip()=6 ", "{" + C + C + C + "r5,3,1,1;h90,60,2;}"
-            + " tell(0,20)=0 tick(8)=2 lock(0,1)=1 "};
-        int[] held = {0, 2, 3, 3};
-        int[][] answers = {{0, 0, 0, 0}, {20, 2, 0, 1}, {480, 0, 6, 1}, {20, 1, 1, 2}};
+            + " tell(0,20)=0 tick(8)=2 lock(0,1)=1 ", RESTING};
+        int[] held = {0, 2, 3, 3, 3};
+        int[][] answers = {{0, 0, 0, 0}, {20, 2, 0, 1}, {480, 0, 6, 1}, {20, 1, 1, 2}, {10, 1, 1, 1}};
         for (int k = 0; k < scenes.length; k++) {
             String undo = " undo()=" + held[k] + " ";
             Calls.same(CHANGE, scenes[k], scenes[k] + "tell(0,479)=" + answers[k][0] + undo);

@@ -30,6 +30,7 @@ public final class EdgesOfPowerTest {
         emptySet();
         firstOfSeveralShares();
         fromLeastToMost();
+        oneDearOfSix();
         shareBounds();
         bestSetOfSeveral();
         bestSetWithoutLocked();
@@ -119,6 +120,25 @@ public final class EdgesOfPowerTest {
             + " share(3,30,0)=10 share(3,30,1)=20 share(3,31,0)=NONE share(3,6,0)=NONE");
         Calls.hold(BEST_SHARE, "{c4,20,0,99,99,1;c3,10,0,1,0,1;} share(3,7,0)=4 share(3,7,1)=3 share(3,14,0)=4 share(3,14,1)=10 share(3,15,0)=5"
             + " share(3,15,1)=10");
+    }
+
+    /** One of six is dear, each once: it makes its LEAST as long as the others have not come to their MOST. */
+    private static void oneDearOfSix() {
+        for (int dear = 0; dear < 6; dear++) {
+            StringBuilder text = new StringBuilder("{");
+            for (int m = 0; m < 6; m++) {
+                text.append(m == dear ? "c2,80,0,99,99,1;" : "c1,10,0,10,0,1;");
+            }
+            for (int load : new int[] {7, 51, 52, 53, 70, 129, 130}) {
+                StringBuilder run = new StringBuilder(text).append("} share(63,").append(load).append(',').append(dear).append(")=")
+                    .append(Math.max(2, load - 50));
+                for (int m = 0; m < 6 && (load == 7 || load >= 52); m++) {
+                    run.append(m == dear ? "" : " share(63," + load + "," + m + ")=" + (load == 7 ? 1 : 10));
+                }
+                Calls.hold(BEST_SHARE, run.toString());
+            }
+            Calls.hold(CAN, text + "} share(63,6,0)=NONE share(63,131,0)=NONE");
+        }
     }
 
     private static void shareBounds() {
