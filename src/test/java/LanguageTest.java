@@ -7,6 +7,8 @@ import java.nio.file.Files;
 import java.nio.file.Path;
 import java.util.Arrays;
 import java.util.List;
+import java.util.Map;
+import java.util.TreeMap;
 import java.util.TreeSet;
 import java.util.regex.Matcher;
 import java.util.regex.Pattern;
@@ -20,6 +22,8 @@ public final class LanguageTest {
     private static final List<String> RULED_OUT = List.of("throw", "throws", "try", "catch", "synchronized", "assert",
         "package", "System.out", "System.in", "System.nanoTime", "System.currentTimeMillis", "Random", "Thread",
         "hashCode", "toString", "Object", "Exact");
+    private static final List<String> KEYWORDS = List.of("if", "for", "while", "switch", "return");
+    private static final int CALLS_DEEP = 8;
 
     public static void main(String[] args) throws IOException {
         face();
@@ -102,6 +106,34 @@ public final class LanguageTest {
         }
         Due.isTrue("signs 1 to 127", whole.chars().allMatch(c -> c >= 1 && c <= 127));
         methodLengths(whole.split("\n"));
+        callDepth(code);
+    }
+
+    /** Each method by its name alone: those of one name in several classes count as one that does what all do. */
+    private static void callDepth(String code) {
+        Map<String, String> bodies = new TreeMap<>();
+        Matcher heads = Pattern.compile("(?m)^ {4}( {4})?[a-zA-Z][\\w\\[\\] ]*?(\\w+)\\([^()]*\\) \\{\n").matcher(code);
+        while (heads.find()) {
+            String indent = heads.group(1) == null ? "    " : "        ";
+            int end = code.indexOf("\n" + indent + "}\n", heads.end() - 1);
+            bodies.merge(heads.group(2), code.substring(heads.end(), end + 1), String::concat);
+        }
+        Due.isTrue("bodies are seen: " + bodies.size(), bodies.size() > 60);
+        for (String name : bodies.keySet()) {
+            int depth = depthOf(name, bodies, CALLS_DEEP + 1);
+            Due.isTrue("eight calls deep at most, here " + name + " " + depth, depth <= CALLS_DEEP);
+        }
+    }
+
+    /** How deep the calls go, this one counted; no more than the most that is asked for. */
+    private static int depthOf(String name, Map<String, String> bodies, int most) {
+        int below = 0;
+        Matcher calls = Pattern.compile("(\\w+)\\(").matcher(bodies.getOrDefault(name, ""));
+        while (most > 1 && calls.find()) {
+            boolean isCall = !KEYWORDS.contains(calls.group(1));
+            below = Math.max(below, isCall ? depthOf(calls.group(1), bodies, most - 1) : 0);
+        }
+        return 1 + below;
     }
 
     private static void methodLengths(String[] lines) {
